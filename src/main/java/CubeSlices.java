@@ -442,7 +442,7 @@ public final class CubeSlices {
         return 31 * hash + value;
     }
 
-    /** The bits of a share above 0, by hand since the language leaves out Double; each step is exact. */
+    /** By hand, since the language leaves out Double; a share is above 0 and below 2, and each step is exact. */
     private static long bitsOf(double share) {
         if (!(share > 0)) {
             return 0;
@@ -452,10 +452,6 @@ public final class CubeSlices {
         for (int i = 0; i < 1000 && fraction < 1; i++) {
             fraction = fraction * 2;
             exponent--;
-        }
-        for (int i = 0; i < 1000 && fraction >= 2; i++) {
-            fraction = fraction / 2;
-            exponent++;
         }
         return (exponent << 52) + (long) ((fraction - 1) * (double) (1L << 52));
     }
@@ -693,7 +689,7 @@ public final class CubeSlices {
         private int size = 0;
 
         History() {
-            for (int i = 0; i < MOST_SAVED; i++) {
+            for (int i = 0; i < states.length; i++) {
                 states[i] = new State();
             }
         }

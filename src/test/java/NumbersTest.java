@@ -113,11 +113,29 @@ public final class NumbersTest {
         Check.same("4: nothing added", c.add(0, 0, 0, 1, 0), 1);
         Check.same("4: saved", c.count(8), 5);
         addWrong(c);
+        addAtTheEdge();
         CubeSlices d = new CubeSlices();
         d.begin(8);
         Check.same("4: the size 8", d.add(0, 0, 0, 8, 999), 512);
         Check.same("4: the sum", d.count(3), 512 * 999);
         Check.same("4: back to zeros", d.add(0, 0, 0, 8, -999), 0);
+    }
+
+    /** A number that can't take more matters in the box, wherever it stands in it, and nowhere else. */
+    private static void addAtTheEdge() {
+        for (int k = 0; k < 64; k++) {
+            CubeSlices c = new CubeSlices();
+            int x = k % 4;
+            int y = k / 4 % 4;
+            int z = k / 16;
+            c.put(x, y, z, 999);
+            if (x > 0 && x < 3 && y > 0 && y < 3 && z > 0 && z < 3) {
+                Check.fails(c, "4: in the box", STATE, () -> c.add(1, 1, 1, 2, 1));
+            } else {
+                Check.same("4: out of the box", c.add(1, 1, 1, 2, 1), 8);
+                Check.same("4: out of the box", c.count(3), 999 + 8);
+            }
+        }
     }
 
     private static void addWrong(CubeSlices c) {
@@ -266,6 +284,7 @@ public final class NumbersTest {
         c.undo();
         c.undo();
         Check.same("10: undone", c.at(1, 0, 0), 5);
+        Check.same("10: only that", c.count(1), 0);
         c.put(2, 2, 2, 2);
         Check.same("10: mark undone too", c.goBack(), 3);
     }
