@@ -23,7 +23,7 @@ public final class FaceTest {
         "long digest 0"
     };
 
-    public static void main(String[] args) {
+    public static void main(String[] args) throws NoSuchFieldException {
         List<Class<?>> classes = new ArrayList<>(List.of(CubeSlices.class));
         classes.addAll(Arrays.asList(CubeSlices.class.getDeclaredClasses()));
         TreeSet<String> face = new TreeSet<>();
@@ -52,6 +52,9 @@ public final class FaceTest {
         Check.same("one constructor", constructors.length, 1);
         Check.same("a public one", constructors[0].getModifiers(), Modifier.PUBLIC);
         Check.same("the class", CubeSlices.class.getModifiers(), Modifier.PUBLIC | Modifier.FINAL);
+        Field none = CubeSlices.class.getDeclaredField("NONE");
+        Check.same("NONE", none.getModifiers(), Modifier.PUBLIC | Modifier.STATIC | Modifier.FINAL);
+        Check.isTrue("NONE is an int", none.getType() == int.class);
         Check.end();
     }
 
