@@ -945,12 +945,14 @@ public final class CubeSlices {
 
     /** The axis and the setting with the least room. */
     private static final class LeastRoom {
+        private static final int MORE_THAN_ANY_ROOM = 1000000;
+
         private int axis = 0;
         private int mostListed = 0;
         private int room = 0;
 
         void look(State state, Slices slices) {
-            room = Integer.MAX_VALUE;
+            room = MORE_THAN_ANY_ROOM;
             for (int a = 0; a < AXES; a++) {
                 slices.look(state, a);
                 for (int most = 1; most <= MOST_LISTED; most++) {
@@ -978,13 +980,15 @@ public final class CubeSlices {
 
     /** The line with the greatest sum. */
     private static final class HeaviestLine {
+        private static final int LESS_THAN_ANY_SUM = -1000000;
+
         private int axis = 0;
         private int former = 0;
         private int latter = 0;
         private int sum = 0;
 
         void look(State state) {
-            sum = Integer.MIN_VALUE;
+            sum = LESS_THAN_ANY_SUM;
             for (int a = 0; a < AXES; a++) {
                 for (int f = 0; f < state.side; f++) {
                     for (int l = 0; l < state.side; l++) {
