@@ -75,11 +75,12 @@ public final class ModelTest {
             case "number":
                 return draw(3) == 0 ? among(0, 0, 999, -999, draw(1999) - 999) : draw(41) - 20;
             case "size":
-                return draw(8) == 0 ? draw(10) : 1 + draw(3);
+                // In odd runs the boxes are large, so that slices fill.
+                return draw(8) == 0 ? draw(10) : 1 + draw(run % 2 == 0 ? 3 : model.count(0));
             case "axis":
                 return draw(3);
             case "setting":
-                return draw(3) == 0 ? draw(66) : 1 + draw(6);
+                return draw(3) == 0 || run % 2 == 1 ? draw(66) : 1 + draw(6);
             case "code":
                 return SIGNS.charAt(draw(SIGNS.length()));
             case "rank":
